@@ -59,15 +59,22 @@ final class FaultTest {
     }
 
     private static void writeAndStoreNothing(Check check) {
-        StageChip chip = Chips.with(Chips.of(Chips.DIV, 1, 2, 0), Chips.addn(3, 1, 0));
-        Chips.putAt(chip, 40, Chips.load(1, 0, -64), Chips.halt());
-        chip.handler(40);
-        chip.set(1, 71);
-        String data = Chips.data(chip);
-        chip.cycles(30);
-        check.same("register 1", chip.register(1), 71);
-        check.same("register 3", chip.register(3), 0);
-        check.same("data", Chips.data(chip), data);
+        int[][] faulty = {Chips.load(1, 0, -64), Chips.store(1, 0, 32), Chips.store(1, 0, -1),
+            Chips.of(Chips.DIV, 1, 1, 0), Chips.of(Chips.CALL, 1, 1, 1)};
+        for (int[] instruction : faulty) {
+            StageChip chip = Chips.with(instruction, Chips.addn(3, 1, 0));
+            Chips.putAt(chip, 40, Chips.halt());
+            chip.handler(40);
+            chip.set(1, 71);
+            for (int word = 0; word < 32; word++) {
+                chip.poke(word, 500 + word);
+            }
+            String data = Chips.data(chip);
+            chip.cycles(30);
+            check.same("register 1 behind operation " + instruction[0], chip.register(1), 71);
+            check.same("register 3 behind operation " + instruction[0], chip.register(3), 0);
+            check.same("data behind operation " + instruction[0], Chips.data(chip), data);
+        }
     }
 
     /** What comes behind works with the register as it is, and its counter learns from that. */
