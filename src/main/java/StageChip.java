@@ -279,7 +279,7 @@ public final class StageChip {
         if (flight.writes(d)) {
             registers[d] = flight.value;
         }
-        lastRetired[retiredCount % REMEMBERED] = flight.place;
+        lastRetired[Math.floorMod(retiredCount, REMEMBERED)] = flight.place;
         retiredCount++;
         flight.present = false;
     }

@@ -37,15 +37,42 @@ final class Check {
         refused(what, call, IllegalArgumentException.class);
     }
 
-    /** The call throws just this, and the chip goes on as one that was not called. */
+    /** In each state, the call throws just this, and the chip goes on as one that was not called. */
     private void refused(String what, Call call, Class<?> due) {
-        StageChip called = Chips.busy();
-        StageChip left = Chips.busy();
-        same(what + " throws", thrownBy(call, called), due.getSimpleName());
-        same(what + " changes nothing", Chips.state(called), Chips.state(left));
-        called.cycles(25);
-        left.cycles(25);
-        same(what + " changes nothing that shows later", Chips.state(called), Chips.state(left));
+        StageChip[] called = Chips.inEachState();
+        StageChip[] left = Chips.inEachState();
+        for (int i = 0; i < called.length; i++) {
+            String here = what + " in state " + i;
+            refusedBy(here, call, due, called[i]);
+            same(here + " changes nothing", Chips.state(called[i]), Chips.state(left[i]));
+            called[i].cycles(25);
+            left[i].cycles(25);
+            same(here + " changes nothing that shows later", Chips.state(called[i]), Chips.state(left[i]));
+            same(here + " leaves the handler", called[i].handler(0), left[i].handler(0));
+        }
+    }
+
+    private void refusedBy(String what, Call call, Class<?> due, StageChip chip) {
+        String before = Insides.of(chip);
+        same(what + " throws", thrownBy(call, chip), due.getSimpleName());
+        same(what + " changes nothing inside", Insides.of(chip), before);
+    }
+
+    /** In each state, the call answers, and changes nothing. */
+    void onlyTells(String what, Call call) {
+        StageChip[] called = Chips.inEachState();
+        for (int i = 0; i < called.length; i++) {
+            String before = Insides.of(called[i]);
+            same(what + " in state " + i + " throws", thrownBy(call, called[i]), "nothing");
+            same(what + " in state " + i + " changes nothing", Insides.of(called[i]), before);
+        }
+    }
+
+    /** In each state, the call is taken. */
+    void takes(String what, Call call) {
+        for (StageChip chip : Chips.inEachState()) {
+            same(what + " throws", thrownBy(call, chip), "nothing");
+        }
     }
 
     static String thrownBy(Call call, StageChip chip) {

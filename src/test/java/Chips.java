@@ -85,6 +85,22 @@ final class Chips {
         return chip;
     }
 
+    /** New; all stages full; busy; in a long work; with a fault in WRITTEN and a STORE behind it; halted. */
+    static StageChip[] inEachState() {
+        StageChip full = new StageChip();
+        full.cycles(40);
+        StageChip dividing = with(of(DIV, 3, 1, 2), store(3, 0, 4));
+        dividing.set(1, 100);
+        dividing.set(2, 7);
+        dividing.cycles(6);
+        StageChip faulty = with(setTo(1, 9), call(), store(1, 0, 4));
+        faulty.handler(50);
+        faulty.cycles(6);
+        StageChip halted = with(setTo(1, 9), store(1, 0, 4), halt());
+        halted.cycles(20);
+        return new StageChip[] {new StageChip(), full, busy(), dividing, faulty, halted};
+    }
+
     static String stages(StageChip chip) {
         StringBuilder row = new StringBuilder();
         for (int i = StageChip.FETCHED; i <= StageChip.WRITTEN; i++) {

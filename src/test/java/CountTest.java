@@ -10,6 +10,12 @@ final class CountTest {
         countsFaultsThatCame(check);
         tellsWhere(check);
         tellsWhetherHalted(check);
+        tellsWhereWhenItIsNoPlace(check);
+        keepsCauseAndReturn(check);
+        for (int what = 0; what <= 8; what++) {
+            int one = what;
+            check.onlyTells("count of " + one, c -> c.count(one));
+        }
         for (int what : NONE_OF_THESE) {
             check.throwsArgument("count of " + what, c -> c.count(what));
         }
@@ -73,5 +79,27 @@ final class CountTest {
         chip.cycles(1);
         check.same("HALT that left it", chip.count(Chips.HALTED), 1);
         check.same("counts", Chips.counts(chip), "6 0 0 0 0 5 0 0 1");
+    }
+
+    private static void tellsWhereWhenItIsNoPlace(Check check) {
+        StageChip chip = new StageChip();
+        chip.start(63);
+        chip.cycles(1);
+        check.same("behind the last place", chip.count(Chips.WHERE), 64);
+        StageChip before = Chips.with(Chips.jump(0, -64));
+        before.cycles(1);
+        check.same("before the first place", before.count(Chips.WHERE), -64);
+    }
+
+    /** They stay until the next fault comes: through a start, a retired instruction and a halt. */
+    private static void keepsCauseAndReturn(Check check) {
+        StageChip chip = Chips.with(Chips.nop(), Chips.nop(), Chips.call(), Chips.nop(), Chips.halt());
+        chip.handler(3);
+        chip.cycles(8);
+        check.same("counts at the fault", Chips.counts(chip), "8 2 0 0 1 3 2 2 0");
+        chip.cycles(30);
+        check.same("counts when halted", Chips.counts(chip), "15 3 0 0 1 9 2 2 1");
+        chip.start(0);
+        check.same("counts behind a start", Chips.counts(chip), "15 3 0 0 1 0 2 2 0");
     }
 }

@@ -12,6 +12,9 @@ final class CyclesTest {
             check.throwsArgument("cycles of " + n, c -> c.cycles(n));
         }
         refusesWhenHaltedToo(check);
+        takesOneAndThreeHundred(check);
+        haltsInItsFirstAndLastCycle(check);
+        letsNothingBehindAHaltHaveAnEffect(check);
         check.end();
     }
 
@@ -59,5 +62,45 @@ final class CyclesTest {
         chip.cycles(6);
         check.same("cycles(0)", Check.thrownBy(c -> c.cycles(0), chip), "IllegalArgumentException");
         check.same("cycles(301)", Check.thrownBy(c -> c.cycles(301), chip), "IllegalArgumentException");
+    }
+
+    private static void takesOneAndThreeHundred(Check check) {
+        int[] allowed = {1, 2, 299, 300};
+        for (int n : allowed) {
+            check.takes("cycles of " + n, c -> c.cycles(n));
+            StageChip chip = Chips.with(Chips.jump(0, 0));
+            check.same("retired by " + n, chip.cycles(n), Math.max(0, n - 5));
+            check.same("cycles of " + n, chip.count(Chips.CYCLES), n);
+        }
+    }
+
+    /** Not halted before the last of them, halted by the first of them. */
+    private static void haltsInItsFirstAndLastCycle(Check check) {
+        StageChip chip = Chips.with(Chips.nop(), Chips.halt());
+        check.same("up to the halt", chip.cycles(6), 1);
+        check.same("halted", chip.count(Chips.HALTED), 0);
+        check.same("HALT in WRITTEN", chip.stage(StageChip.WRITTEN), 1);
+        check.same("the halt and 299 behind it", chip.cycles(300), 0);
+        check.same("counts", Chips.counts(chip), "7 1 0 0 0 6 0 0 1");
+        check.same("one more", chip.cycles(1), 0);
+        check.same("cycles", chip.count(Chips.CYCLES), 7);
+        check.same("pace", chip.pace(), 7f);
+    }
+
+    private static void letsNothingBehindAHaltHaveAnEffect(Check check) {
+        int[][] behind = {Chips.store(1, 0, 4), Chips.setTo(1, 5), Chips.call(), Chips.load(1, 0, -1),
+            Chips.of(Chips.DIV, 1, 1, 0), Chips.jump(1, -1), Chips.back(1, 0, -1), Chips.halt()};
+        for (int[] instruction : behind) {
+            StageChip chip = Chips.with(Chips.halt(), instruction, instruction);
+            chip.set(1, 8);
+            check.same("retired", chip.cycles(20), 0);
+            check.same("register 1", chip.register(1), 8);
+            check.same("word 4", chip.peek(4), 0);
+            check.same("faults", chip.count(Chips.FAULTS), 0);
+            check.same("cause", chip.count(Chips.CAUSE), 0);
+            check.same("halted", chip.count(Chips.HALTED), 1);
+            check.same("cycles", chip.count(Chips.CYCLES), 6);
+            check.same("stages", Chips.stages(chip), ". . . . .");
+        }
     }
 }

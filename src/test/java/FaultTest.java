@@ -13,6 +13,11 @@ final class FaultTest {
         doNotComeWhenGuessedWrong(check);
         standAtAnyPlace(check);
         divideForSixCycles(check);
+        comeAtTheEdgesOfThePlaces(check);
+        emptyAllStages(check);
+        keepTheHaltBehindThemOff(check);
+        comeWithAnyDivisorButZeroNever(check);
+        areThoseOfANop(check);
         check.end();
     }
 
@@ -133,5 +138,67 @@ final class FaultTest {
         check.same("cause before", chip.count(Chips.CAUSE), 0);
         chip.cycles(1);
         check.same("then", Chips.counts(chip), "11 0 5 0 1 0 4 0 0");
+    }
+
+    private static void comeAtTheEdgesOfThePlaces(Check check) {
+        int[][] rows = {{-64, 1}, {-2, 1}, {-1, 1}, {0, 0}, {1, 0}, {62, 0}, {63, 0}, {64, 1}, {65, 1},
+            {LEAST, 1}, {GREATEST, 1}};
+        for (int[] row : rows) {
+            StageChip chip = new StageChip();
+            Chips.putAt(chip, 30, Chips.back(0, 1, 0));
+            chip.set(1, row[0]);
+            chip.handler(40);
+            chip.start(30);
+            check.same("retired, gone to " + row[0], chip.cycles(9), row[1] == 1 ? 1 : 2);
+            check.same("cause of " + row[0], chip.count(Chips.CAUSE), row[1]);
+            check.same("return of " + row[0], chip.count(Chips.RETURN), row[1] == 1 ? row[0] : 0);
+        }
+    }
+
+    /** The cycle ends with that: nothing is fetched in it, and what was in MEMORY stores nothing. */
+    private static void emptyAllStages(Check check) {
+        StageChip chip = Chips.with(Chips.nop(), Chips.call(), Chips.store(1, 0, 4), Chips.same(0, 0, 9));
+        chip.set(1, 8);
+        chip.handler(50);
+        chip.cycles(6);
+        check.same("stages before", Chips.stages(chip), "5 4 3 2 1");
+        chip.cycles(1);
+        check.same("stages", Chips.stages(chip), ". . . . .");
+        check.same("counts", Chips.counts(chip), "7 1 0 0 1 50 2 1 0");
+        check.same("word 4", chip.peek(4), 0);
+        check.same("counters", Chips.counters(chip), "11111111");
+    }
+
+    private static void keepTheHaltBehindThemOff(Check check) {
+        StageChip chip = Chips.with(Chips.call(), Chips.halt());
+        Chips.putAt(chip, 20, Chips.jump(0, 0));
+        chip.handler(20);
+        chip.cycles(60);
+        check.same("halted", chip.count(Chips.HALTED), 0);
+        check.same("faults", chip.count(Chips.FAULTS), 1);
+    }
+
+    private static void comeWithAnyDivisorButZeroNever(Check check) {
+        int[] divisors = {LEAST, -1, 1, 2, GREATEST};
+        for (int divisor : divisors) {
+            check.same("DIV by " + divisor, causeOf(Chips.of(Chips.DIV, 1, 3, 2), divisor), 0);
+        }
+        check.same("DIV by 0", causeOf(Chips.of(Chips.DIV, 1, 3, 2), 0), 4);
+    }
+
+    /** What is fetched from a place that there is not is a NOP, whatever stands at that place modulo 64. */
+    private static void areThoseOfANop(Check check) {
+        int[][] elsewhere = {Chips.same(0, 0, 5), Chips.jump(1, 5), Chips.of(Chips.MUL, 1, 2, 2), Chips.call(),
+            Chips.of(Chips.DIV, 1, 2, 0), Chips.load(1, 0, -1), Chips.halt(), Chips.store(2, 0, 4), Chips.setTo(1, 5)};
+        for (int[] instruction : elsewhere) {
+            StageChip chip = Chips.with(instruction, instruction, instruction, instruction);
+            chip.handler(30);
+            chip.start(63);
+            check.trace("behind 63", chip, "63 . . . .", "64 63 . . .", "65 64 63 . .", "66 65 64 63 .",
+                    "67 66 65 64 63", "68 67 66 65 64", ". . . . .");
+            check.same("counts", Chips.counts(chip), "7 1 0 0 1 30 1 64 0");
+            check.same("counters", Chips.counters(chip), "11111111");
+            check.same("register 1", chip.register(1), 0);
+        }
     }
 }

@@ -9,32 +9,75 @@ final class PutTest {
         Check check = new Check();
         takesAllInBounds(check);
         isFetchedFromItsPlace(check);
+        keepsEachRegisterNumber(check);
+        keepsEachNumber(check);
+        isReplacedByTheNext(check);
         leavesWhatIsInAStage(check);
+        leavesALongWorkInAStage(check);
+        leavesAGuessInAStage(check);
         refusesPlaces(check);
         refusesArguments(check);
+        refusesThePlaceFirst(check);
+        keepsTheOldOneWhenRefused(check);
         check.end();
     }
 
     private static void takesAllInBounds(Check check) {
         for (int operation = Chips.ADD; operation <= Chips.NOP; operation++) {
             int op = operation;
-            check.same("put of operation " + op + " at its least", Check.thrownBy(
-                    c -> c.put(0, op, 0, 0, 0, -64), new StageChip()), "nothing");
-            check.same("put of operation " + op + " at its greatest", Check.thrownBy(
-                    c -> c.put(63, op, 15, 15, 15, 63), new StageChip()), "nothing");
+            check.takes("put of operation " + op + " at its least", c -> c.put(0, op, 0, 0, 0, -64));
+            check.takes("put of operation " + op + " at its greatest", c -> c.put(63, op, 15, 15, 15, 63));
         }
     }
 
     private static void isFetchedFromItsPlace(Check check) {
-        StageChip chip = Chips.with(Chips.setTo(1, -64), Chips.setTo(15, 63), Chips.of(Chips.SUB, 2, 15, 1));
-        Chips.putAt(chip, 63, Chips.setTo(3, 1));
-        chip.cycles(8);
-        check.same("register 1", chip.register(1), -64);
-        check.same("register 15", chip.register(15), 63);
-        check.same("register 2", chip.register(2), 127);
-        chip.start(63);
+        StageChip chip = new StageChip();
+        for (int place = 0; place < 64; place++) {
+            Chips.putAt(chip, place, Chips.setTo(1, 63 - 2 * place));
+        }
+        for (int place = 0; place < 64; place++) {
+            chip.start(place);
+            chip.cycles(6);
+            check.same("register 1 by place " + place, chip.register(1), 63 - 2 * place);
+        }
+    }
+
+    private static void keepsEachRegisterNumber(Check check) {
+        for (int register = 1; register < 16; register++) {
+            StageChip chip = Chips.with(Chips.setTo(register, 9));
+            chip.cycles(6);
+            for (int other = 0; other < 16; other++) {
+                check.same("register " + other + " by d " + register, chip.register(other), other == register ? 9 : 0);
+            }
+        }
+        for (int register = 0; register < 16; register++) {
+            StageChip chip = Chips.with(Chips.store(register, 0, 5), Chips.addn(1, register, 0));
+            for (int other = 1; other < 16; other++) {
+                chip.set(other, 100 + other);
+            }
+            chip.cycles(7);
+            int due = register == 0 ? 0 : 100 + register;
+            check.same("word 5 by t " + register, chip.peek(5), due);
+            check.same("register 1 by s " + register, chip.register(1), due);
+        }
+    }
+
+    private static void keepsEachNumber(Check check) {
+        StageChip chip = new StageChip();
+        for (int n = -64; n <= 63; n++) {
+            Chips.putAt(chip, 0, Chips.setTo(1, n));
+            chip.start(0);
+            chip.cycles(6);
+            check.same("register 1 by n " + n, chip.register(1), n);
+        }
+    }
+
+    private static void isReplacedByTheNext(Check check) {
+        StageChip chip = Chips.with(Chips.setTo(1, 5));
+        Chips.putAt(chip, 0, Chips.setTo(2, 6));
         chip.cycles(6);
-        check.same("register 3", chip.register(3), 1);
+        check.same("register 1, of the one that was", chip.register(1), 0);
+        check.same("register 2, of the one that is", chip.register(2), 6);
     }
 
     private static void leavesWhatIsInAStage(Check check) {
@@ -48,6 +91,27 @@ final class PutTest {
             chip.cycles(6);
             check.same("register 1, fetched anew", chip.register(1), 9);
         }
+    }
+
+    private static void leavesALongWorkInAStage(Check check) {
+        for (int before = 3; before <= 8; before++) {
+            StageChip chip = Chips.with(Chips.of(Chips.DIV, 3, 1, 2));
+            chip.set(1, 100);
+            chip.set(2, 7);
+            chip.cycles(before);
+            Chips.putAt(chip, 0, Chips.nop());
+            chip.cycles(11 - before);
+            check.same("register 3, put after " + before + " cycles", chip.register(3), 14);
+            check.same("waits, put after " + before + " cycles", chip.count(Chips.WAITS), 5);
+        }
+    }
+
+    private static void leavesAGuessInAStage(Check check) {
+        StageChip chip = Chips.with(Chips.jump(1, 20));
+        chip.cycles(1);
+        Chips.putAt(chip, 0, Chips.halt());
+        check.trace("a JUMP that was replaced behind its fetch", chip, "20 0 . . .", "21 20 0 . .", "22 21 20 0 .");
+        check.same("wrong guesses", chip.count(Chips.WRONG_GUESSES), 0);
     }
 
     private static void refusesPlaces(Check check) {
@@ -68,6 +132,46 @@ final class PutTest {
         }
         for (int number : NO_NUMBER) {
             check.throwsArgument("put with n " + number, c -> c.put(7, Chips.SET, 1, 0, 0, number));
+        }
+        for (int operation = Chips.ADD; operation <= Chips.NOP; operation++) {
+            refusesOfAnyOperation(check, operation);
+        }
+    }
+
+    /** Also where the operation has no use for what is not in its bounds. */
+    private static void refusesOfAnyOperation(Check check, int operation) {
+        String what = "put of operation " + operation + " with ";
+        int[][] wrong = {{-1, 0, 0, 0}, {16, 0, 0, 0}, {0, -1, 0, 0}, {0, 16, 0, 0}, {0, 0, -1, 0}, {0, 0, 16, 0},
+            {0, 0, 0, -65}, {0, 0, 0, 64}};
+        for (int[] x : wrong) {
+            for (int place = 0; place < 64; place += 63) {
+                int at = place;
+                check.throwsArgument(what + x[0] + " " + x[1] + " " + x[2] + " " + x[3] + " at " + at,
+                        c -> c.put(at, operation, x[0], x[1], x[2], x[3]));
+            }
+        }
+    }
+
+    private static void refusesThePlaceFirst(Check check) {
+        int[][] wrong = {{-1, 1, 1, 1, 1}, {20, 1, 1, 1, 1}, {0, -1, 1, 1, 1}, {0, 16, 1, 1, 1}, {0, 1, -1, 1, 1},
+            {0, 1, 16, 1, 1}, {0, 1, 1, -1, 1}, {0, 1, 1, 16, 1}, {0, 1, 1, 1, -65}, {0, 1, 1, 1, 64}};
+        for (int[] x : wrong) {
+            for (int place : NO_PLACE) {
+                check.throwsIndex("put at " + place + " of " + x[0] + " " + x[1] + " " + x[2] + " " + x[3] + " " + x[4],
+                        c -> c.put(place, x[0], x[1], x[2], x[3], x[4]));
+            }
+        }
+    }
+
+    private static void keepsTheOldOneWhenRefused(Check check) {
+        int[][] wrong = {{20, 1, 1, 1, 1}, {Chips.SET, 16, 1, 1, 1}, {Chips.SET, 1, 16, 1, 1},
+            {Chips.SET, 1, 1, 16, 1}, {Chips.SET, 1, 1, 1, 64}};
+        for (int[] x : wrong) {
+            StageChip chip = Chips.with(Chips.setTo(1, 5));
+            check.same("put", Check.thrownBy(c -> c.put(0, x[0], x[1], x[2], x[3], x[4]), chip),
+                    "IllegalArgumentException");
+            chip.cycles(6);
+            check.same("register 1, of the one that stays", chip.register(1), 5);
         }
     }
 }

@@ -6,6 +6,8 @@ final class RetiredTest {
         keepsTheLastSixteen(check);
         leavesOutHaltAndFaults(check);
         leavesOutWhatWasDropped(check);
+        hasNoneAtFirst(check);
+        isRefusedByHowManyThereAre(check);
         int[] none = {-1, 16, 17, Integer.MIN_VALUE, Integer.MAX_VALUE};
         for (int i : none) {
             check.throwsIndex("retired(" + i + ")", c -> c.retired(i));
@@ -54,5 +56,35 @@ final class RetiredTest {
         check.same("retired", Chips.retired(chip), "4 0");
         chip.cycles(1);
         check.same("retired then", Chips.retired(chip), "9 4 0");
+    }
+
+    private static void hasNoneAtFirst(Check check) {
+        StageChip chip = Chips.with(Chips.call());
+        for (int cycle = 0; cycle < 12; cycle++) {
+            for (int i = -1; i <= 16; i++) {
+                int entry = i;
+                check.same("retired(" + i + ")", Check.thrownBy(c -> c.retired(entry), chip),
+                        "IndexOutOfBoundsException");
+            }
+            chip.cycles(1);
+        }
+    }
+
+    /** The first entry beyond those that there are, for 1 to 40 that were retired. */
+    private static void isRefusedByHowManyThereAre(Check check) {
+        StageChip chip = new StageChip();
+        chip.cycles(5);
+        for (int all = 1; all <= 40; all++) {
+            chip.cycles(1);
+            int kept = Math.min(16, all);
+            String before = Insides.of(chip);
+            check.same("retired(-1) of " + all, Check.thrownBy(c -> c.retired(-1), chip), "IndexOutOfBoundsException");
+            check.same("the one beyond of " + all, Check.thrownBy(c -> c.retired(kept), chip),
+                    "IndexOutOfBoundsException");
+            for (int i = 0; i < kept; i++) {
+                check.same("entry " + i + " of " + all, chip.retired(i), all - 1 - i);
+            }
+            check.same("nothing changed", Insides.of(chip), before);
+        }
     }
 }

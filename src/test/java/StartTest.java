@@ -1,6 +1,6 @@
 /** Promise 7. */
 final class StartTest {
-    private static final int[] NO_PLACE = {-1, 64, Integer.MIN_VALUE, Integer.MAX_VALUE};
+    private static final int[] NO_PLACE = {-1, 64, 65, Integer.MIN_VALUE, Integer.MAX_VALUE};
 
     public static void main(String[] args) {
         Check check = new Check();
@@ -8,6 +8,8 @@ final class StartTest {
         wakesAHaltedOne(check);
         dropsAFaultOnItsWay(check);
         beginsAMultiplicationAnew(check);
+        takesEachPlaceInEachState(check);
+        leavesTheHandler(check);
         for (int place : NO_PLACE) {
             check.throwsIndex("start at " + place, c -> c.start(place));
         }
@@ -68,5 +70,36 @@ final class StartTest {
         chip.cycles(6);
         check.same("start at 64", Check.thrownBy(c -> c.start(64), chip), "IndexOutOfBoundsException");
         check.same("halted", chip.count(Chips.HALTED), 1);
+    }
+
+    private static void takesEachPlaceInEachState(Check check) {
+        for (int place = 0; place < 64; place++) {
+            for (StageChip chip : Chips.inEachState()) {
+                startsAt(check, chip, place);
+            }
+        }
+    }
+
+    private static void startsAt(Check check, StageChip chip, int place) {
+        String registers = Chips.registers(chip);
+        String data = Chips.data(chip);
+        int cycles = chip.count(Chips.CYCLES);
+        chip.start(place);
+        check.same("stages", Chips.stages(chip), ". . . . .");
+        check.same("where", chip.count(Chips.WHERE), place);
+        check.same("halted", chip.count(Chips.HALTED), 0);
+        check.same("cycles", chip.count(Chips.CYCLES), cycles);
+        check.same("retired by the first cycle", chip.cycles(1), 0);
+        check.same("stages then", Chips.stages(chip), place + " . . . .");
+        check.same("registers", Chips.registers(chip), registers);
+        check.same("data", Chips.data(chip), data);
+    }
+
+    private static void leavesTheHandler(Check check) {
+        for (StageChip chip : Chips.inEachState()) {
+            chip.handler(33);
+            chip.start(0);
+            check.same("handler", chip.handler(1), 33);
+        }
     }
 }
