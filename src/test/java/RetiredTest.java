@@ -61,11 +61,13 @@ final class RetiredTest {
     private static void hasNoneAtFirst(Check check) {
         StageChip chip = Chips.with(Chips.call());
         for (int cycle = 0; cycle < 12; cycle++) {
+            String before = Insides.of(chip);
             for (int i = -1; i <= 16; i++) {
                 int entry = i;
                 check.same("retired(" + i + ")", Check.thrownBy(c -> c.retired(entry), chip),
                         "IndexOutOfBoundsException");
             }
+            check.same("nothing changed", Insides.of(chip), before);
             chip.cycles(1);
         }
     }
