@@ -18,6 +18,8 @@ final class FaultTest {
         keepTheHaltBehindThemOff(check);
         comeWithAnyDivisorButZeroNever(check);
         areThoseOfANop(check);
+        leaveWhatIsBehindUntilTheyCome(check);
+        handNothingOn(check);
         check.end();
     }
 
@@ -199,6 +201,34 @@ final class FaultTest {
             check.same("counts", Chips.counts(chip), "7 1 0 0 1 30 1 64 0");
             check.same("counters", Chips.counters(chip), "11111111");
             check.same("register 1", chip.register(1), 0);
+        }
+    }
+
+    /** None goes from FETCHED and READ when a fault is found: all go when it leaves WRITTEN. */
+    private static void leaveWhatIsBehindUntilTheyCome(Check check) {
+        int[][] faulty = {Chips.call(), Chips.load(1, 0, 32), Chips.store(1, 0, -1), Chips.of(Chips.DIV, 1, 1, 0)};
+        for (int[] instruction : faulty) {
+            StageChip chip = Chips.with(instruction);
+            chip.handler(50);
+            chip.cycles(instruction[0] == Chips.DIV ? 8 : 3);
+            check.trace("from operation " + instruction[0], chip, "3 2 1 0 .", "4 3 2 1 0", ". . . . .", "50 . . . .");
+            check.same("wrong guesses", chip.count(Chips.WRONG_GUESSES), 0);
+            check.same("faults", chip.count(Chips.FAULTS), 1);
+        }
+    }
+
+    /** A branch right behind them compares register 1 as it is, and its counter tells. */
+    private static void handNothingOn(Check check) {
+        int[][] faulty = {Chips.load(1, 0, 32), Chips.of(Chips.STORE, 1, 2, 2), Chips.of(Chips.DIV, 1, 1, 0),
+            Chips.of(Chips.CALL, 1, 1, 1)};
+        for (int[] instruction : faulty) {
+            StageChip chip = Chips.with(instruction, Chips.same(1, 2, 9));
+            chip.set(1, 71);
+            chip.set(2, 71);
+            chip.cycles(instruction[0] == Chips.DIV ? 10 : 5);
+            check.same("counter 1 behind operation " + instruction[0], chip.counter(1), 2);
+            chip.cycles(1);
+            check.same("faults", chip.count(Chips.FAULTS), 1);
         }
     }
 }

@@ -5,10 +5,10 @@ final class ManyProgramsTest {
     private static final int[] OFTEN = {Chips.ADD, Chips.SUB, Chips.ADDN, Chips.ADDN, Chips.SET, Chips.LOAD, Chips.LOAD,
         Chips.STORE, Chips.STORE, Chips.SAME, Chips.SAME, Chips.OTHER, Chips.OTHER, Chips.JUMP, Chips.MUL, Chips.DIV};
 
-    private long seed;
+    private final Numbers numbers;
 
     private ManyProgramsTest(long seed) {
-        this.seed = seed;
+        numbers = new Numbers(seed);
     }
 
     public static void main(String[] args) {
@@ -59,10 +59,8 @@ final class ManyProgramsTest {
         return chip;
     }
 
-    /** The upper bits of a linear congruence: the same in every run. */
     private int below(int bound) {
-        seed = seed * 6364136223846793005L + 1442695040888963407L;
-        return (int) Math.floorMod(seed >>> 33, (long) bound);
+        return numbers.below(bound);
     }
 
     private int[] anInstruction() {
@@ -72,10 +70,10 @@ final class ManyProgramsTest {
     }
 
     private int[] someNumbers(int size) {
-        int[] numbers = new int[size];
+        int[] row = new int[size];
         for (int i = 0; i < size; i++) {
-            numbers[i] = below(8) == 0 ? below(Integer.MAX_VALUE) * (below(2) * 2 - 1) : below(36) - 3;
+            row[i] = below(8) == 0 ? below(Integer.MAX_VALUE) * (below(2) * 2 - 1) : below(36) - 3;
         }
-        return numbers;
+        return row;
     }
 }

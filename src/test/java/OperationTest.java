@@ -20,6 +20,7 @@ final class OperationTest {
         handsOnTheNewest(check);
         waitsForTheLoadRightAheadAlone(check);
         worksWithTheSameRegisterThrice(check);
+        handsOnNothingWithoutD(check);
         check.end();
     }
 
@@ -288,6 +289,22 @@ final class OperationTest {
             chip.set(15, 7);
             chip.cycles(11);
             check.same("operation " + operation + " of 15, 15 and 15", chip.register(15), due[operation]);
+        }
+    }
+
+    /** Those without d hand on nothing either, to the one right behind and to the next. */
+    private static void handsOnNothingWithoutD(Check check) {
+        int[] withoutD = {Chips.STORE, Chips.SAME, Chips.OTHER, Chips.NOP};
+        for (int operation : withoutD) {
+            StageChip chip = new StageChip();
+            chip.put(0, operation, 4, 1, 2, 1);
+            Chips.putAt(chip, 1, Chips.addn(5, 4, 0), Chips.addn(6, 4, 0));
+            chip.set(1, 3);
+            chip.set(2, 8);
+            chip.set(4, 99);
+            check.same("retired behind operation " + operation, chip.cycles(8), 3);
+            check.same("registers behind operation " + operation, Chips.registers(chip),
+                    "0 3 8 0 99 99 99 0 0 0 0 0 0 0 0 0");
         }
     }
 }
